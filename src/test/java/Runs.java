@@ -1,0 +1,69 @@
+/** Runs of calls that many tests begin with; each expects that no message waits before it. */
+final class Runs {
+    static final int[] ODD_NUMBERS = {-1, Integer.MIN_VALUE, Integer.MAX_VALUE};
+
+    private Runs() {
+    }
+
+    /** Delivers whatever waits, lowest slot first, until nothing does. */
+    static void settle(QuorumLog x) {
+        for (int round = 0; round < 100 && x.pending() > 0; round++) {
+            x.deliver(lowestTaken(x));
+        }
+    }
+
+    static int lowestTaken(QuorumLog x) {
+        for (int slot = 0; slot < 40; slot++) {
+            if (x.slot(slot) > 0) {
+                return slot;
+            }
+        }
+        return 0;
+    }
+
+    static void dropAll(QuorumLog x) {
+        for (int slot = 0; slot < 40; slot++) {
+            x.drop(slot);
+        }
+    }
+
+    static void elect(QuorumLog x, int leader) {
+        x.timeout(leader);
+        settle(x);
+    }
+
+    /** The node is elected by the voter alone: the ASKs to all others are lost. */
+    static void electBy(QuorumLog x, int leader, int voter) {
+        x.timeout(leader);
+        for (int slot = 0; slot < 40; slot++) {
+            if (x.slot(slot) > 0 && receiver(x.slot(slot)) != voter) {
+                x.drop(slot);
+            }
+        }
+        settle(x);
+    }
+
+    /** One heartbeat there, and its answer back. */
+    static void beat(QuorumLog x, int leader, int peer) {
+        x.heartbeat(leader, peer);
+        settle(x);
+    }
+
+    static QuorumLog led(int nodes, int cap, int slots, int leader) {
+        QuorumLog x = new QuorumLog(nodes, cap, slots);
+        elect(x, leader);
+        return x;
+    }
+
+    static int receiver(int message) {
+        return message / 64 % 8;
+    }
+
+    static int message(int kind, int from, int to, int term) {
+        return kind + 8 * from + 64 * to + 512 * term;
+    }
+
+    static int nextAndMatch(int next, int match) {
+        return 100000 * next + match;
+    }
+}
