@@ -49,6 +49,22 @@ final class Runs {
         settle(x);
     }
 
+    /** The same while other messages wait: it takes the slot, the lowest that is free. */
+    static void beatSlot(QuorumLog x, int leader, int peer, int slot) {
+        x.heartbeat(leader, peer);
+        x.deliver(slot);
+        x.deliver(slot);
+    }
+
+    /** Delivers the VOTEs that wait, and nothing else. */
+    static void settleVotes(QuorumLog x) {
+        for (int slot = 0; slot < 40; slot++) {
+            if (x.slot(slot) > 0 && x.slot(slot) % 8 == 2) {
+                x.deliver(slot);
+            }
+        }
+    }
+
     static QuorumLog led(int nodes, int cap, int slots, int leader) {
         QuorumLog x = new QuorumLog(nodes, cap, slots);
         elect(x, leader);
