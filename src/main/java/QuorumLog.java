@@ -583,20 +583,12 @@ public final class QuorumLog {
         private int commit;
         private int state;
 
-        /** Clears the rest, so that nothing of the message written here before is borne along. */
+        /** The sender then writes all parts that the kind bears; the others are never read. */
         private void begin(int newKind, int sender, int receiver, int senderTerm) {
             kind = newKind;
             from = sender;
             to = receiver;
             term = senderTerm;
-            number = 0;
-            numberTerm = 0;
-            yes = false;
-            hasEntry = false;
-            entryTerm = 0;
-            entryCommand = 0;
-            commit = 0;
-            state = 0;
         }
 
         private void copy(Message other) {

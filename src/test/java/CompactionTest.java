@@ -6,6 +6,7 @@ public final class CompactionTest {
         compactCutsUpToTheCommit();
         compactIsRefused();
         compactedLogsGoOn();
+        entriesBehindTheBaseKeepTheirTerms();
         heartbeatSendsASnapshotUpToTheBase();
         heartbeatSendsASnapshotAtTheBaseItself();
         aSnapshotGivesBaseTermAndState();
@@ -98,6 +99,34 @@ public final class CompactionTest {
         CHECKS.due("compact", x.compact(0), 4);
         CHECKS.due("base", x.base(0), 7);
         CHECKS.due("the state stays", x.state(0), stateOf(10, 20, 30, 40, 50, 60, 70));
+    }
+
+    private static void entriesBehindTheBaseKeepTheirTerms() {
+        QuorumLog x = threeCommitted(8);
+        x.crash(0);
+        x.restart(0);
+        Runs.elect(x, 0);
+        x.propose(0, 50);
+        x.crash(0);
+        x.restart(0);
+        Runs.elect(x, 0);
+        x.propose(0, 60);
+        x.propose(0, 70);
+        CHECKS.due("one of term 2", x.termAt(0, 5), 2);
+        for (int i = 0; i < 8 && x.commit(0) < 6; i++) {
+            Runs.beat(x, 0, 1);
+        }
+        CHECKS.due("commit", x.commit(0), 6);
+        CHECKS.due("node 1 heard of no commit since term 1", x.compact(1), 2);
+        int[] terms = {1, 1, 1, 2, 3};
+        for (int i = 2; i <= 6; i++) {
+            CHECKS.due("term at " + i, x.termAt(1, i), terms[i - 2]);
+            CHECKS.due("command of " + i, x.commandAt(1, i), i == 2 ? 0 : 10 * i);
+        }
+        CHECKS.due("compact", x.compact(0), 6);
+        CHECKS.due("term at the base", x.termAt(0, 6), 3);
+        CHECKS.due("term behind it", x.termAt(0, 7), 3);
+        CHECKS.due("command behind it", x.commandAt(0, 7), 70);
     }
 
     private static void heartbeatSendsASnapshotUpToTheBase() {

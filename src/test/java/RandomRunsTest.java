@@ -10,7 +10,7 @@ public final class RandomRunsTest {
     private static final int RUNS = 12000;
     private static final int CALLS = 512;
 
-    /** For each mood, how often a call is drawn; the order is that of the cases in call(). */
+    /** For each mood, how often a call is drawn; the order is that of the cases in both(). */
     private static final int[][] MOODS = {
         {4, 14, 8, 4, 40, 6, 5, 1, 3, 1, 1, 1, 1, 1, 1, 2, 2, 2, 3, 1, 2},
         {3, 30, 14, 8, 60, 2, 2, 1, 6, 1, 1, 1, 1, 1, 1, 2, 2, 2, 3, 1, 2},
@@ -54,9 +54,8 @@ public final class RandomRunsTest {
             int call = draw();
             int a = argument(call);
             int b = secondArgument(call);
-            int got = call(object, call, a, b);
             String what = "seed " + seed + ", call " + i + " of kind " + call + " (" + a + ", " + b + ")";
-            CHECKS.due(what, got, call(model, call, a, b));
+            int got = both(what, call, a, b);
             if (call == 4 && got > 0) {
                 seen[got]++;
             }
@@ -143,55 +142,35 @@ public final class RandomRunsTest {
         return call == 15 || call == 16 ? number(14) : number(nodes);
     }
 
-    private static int call(QuorumLog x, int call, int a, int b) {
+    /** Makes the call on both; the answer is the object's. */
+    private int both(String what, int call, int a, int b) {
         switch (call) {
-            case 0: return x.timeout(a);
-            case 1: return x.heartbeat(a, b);
-            case 2: return x.propose(a, b);
-            case 3: return x.compact(a);
-            case 4: return x.deliver(a);
-            case 5: return x.drop(a);
-            case 6: return x.duplicate(a);
-            case 7: return x.crash(a);
-            case 8: return x.restart(a);
-            case 9: return x.role(a);
-            case 10: return x.term(a);
-            case 11: return x.vote(a);
-            case 12: return x.base(a);
-            case 13: return x.last(a);
-            case 14: return x.commit(a);
-            case 15: return x.termAt(a, b);
-            case 16: return x.commandAt(a, b);
-            case 17: return x.state(a);
-            case 18: return x.peer(a, b);
-            case 19: return x.pending();
-            default: return x.slot(a);
+            case 0: return same(what, object.timeout(a), model.timeout(a));
+            case 1: return same(what, object.heartbeat(a, b), model.heartbeat(a, b));
+            case 2: return same(what, object.propose(a, b), model.propose(a, b));
+            case 3: return same(what, object.compact(a), model.compact(a));
+            case 4: return same(what, object.deliver(a), model.deliver(a));
+            case 5: return same(what, object.drop(a), model.drop(a));
+            case 6: return same(what, object.duplicate(a), model.duplicate(a));
+            case 7: return same(what, object.crash(a), model.crash(a));
+            case 8: return same(what, object.restart(a), model.restart(a));
+            case 9: return same(what, object.role(a), model.role(a));
+            case 10: return same(what, object.term(a), model.term(a));
+            case 11: return same(what, object.vote(a), model.vote(a));
+            case 12: return same(what, object.base(a), model.base(a));
+            case 13: return same(what, object.last(a), model.last(a));
+            case 14: return same(what, object.commit(a), model.commit(a));
+            case 15: return same(what, object.termAt(a, b), model.termAt(a, b));
+            case 16: return same(what, object.commandAt(a, b), model.commandAt(a, b));
+            case 17: return same(what, object.state(a), model.state(a));
+            case 18: return same(what, object.peer(a, b), model.peer(a, b));
+            case 19: return same(what, object.pending(), model.pending());
+            default: return same(what, object.slot(a), model.slot(a));
         }
     }
 
-    private static int call(Model x, int call, int a, int b) {
-        switch (call) {
-            case 0: return x.timeout(a);
-            case 1: return x.heartbeat(a, b);
-            case 2: return x.propose(a, b);
-            case 3: return x.compact(a);
-            case 4: return x.deliver(a);
-            case 5: return x.drop(a);
-            case 6: return x.duplicate(a);
-            case 7: return x.crash(a);
-            case 8: return x.restart(a);
-            case 9: return x.role(a);
-            case 10: return x.term(a);
-            case 11: return x.vote(a);
-            case 12: return x.base(a);
-            case 13: return x.last(a);
-            case 14: return x.commit(a);
-            case 15: return x.termAt(a, b);
-            case 16: return x.commandAt(a, b);
-            case 17: return x.state(a);
-            case 18: return x.peer(a, b);
-            case 19: return x.pending();
-            default: return x.slot(a);
-        }
+    private static int same(String what, int got, int want) {
+        CHECKS.due(what, got, want);
+        return got;
     }
 }

@@ -15,6 +15,7 @@ public final class ReplicationTest {
         anAppendBehindTheLastIsRefused();
         anAppendWithAnotherTermIsRefused();
         entriesThatDifferAreTakenBack();
+        takingBackDoesNotLiftTheCommit();
         anEntryOfTheSameTermStays();
         aFullLogTakesNoEntry();
         aFullLogTakesAnEntryInPlaceOfAnother();
@@ -279,6 +280,30 @@ public final class ReplicationTest {
         Runs.beat(x, 1, 0);
         CHECKS.due("all three are there", x.commandAt(0, 3), 23);
         CHECKS.due("all three are committed", x.commit(1), 3);
+    }
+
+    /** Node 0 lost its commit by a crash; taking entries back must not lift it. */
+    private static void takingBackDoesNotLiftTheCommit() {
+        QuorumLog x = Runs.led(3, 4, 8, 0);
+        x.propose(0, 11);
+        Runs.beat(x, 0, 1);
+        Runs.beat(x, 0, 2);
+        x.propose(0, 12);
+        x.propose(0, 13);
+        Runs.electBy(x, 1, 2);
+        x.propose(1, 22);
+        x.crash(0);
+        x.restart(0);
+        CHECKS.due("the new leader knows of no commit", x.commit(1), 0);
+        x.heartbeat(1, 0);
+        CHECKS.due("deliver entry 2 of term 2", x.deliver(0), 3);
+        CHECKS.due("entry 1 stays", x.commandAt(0, 1), 11);
+        CHECKS.due("its term", x.termAt(0, 1), 1);
+        CHECKS.due("entry 2 is another", x.commandAt(0, 2), 22);
+        CHECKS.due("entry 3 went", x.last(0), 2);
+        CHECKS.due("commit", x.commit(0), 0);
+        x.deliver(0);
+        CHECKS.due("the leader's commit", x.commit(1), 2);
     }
 
     private static void anEntryOfTheSameTermStays() {
