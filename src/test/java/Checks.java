@@ -1,6 +1,7 @@
 /** Compares answers with those that are due, and tells how many are wrong. */
 final class Checks {
     private final String name;
+    private String sentence = "";
     private int done = 0;
     private int wrong = 0;
 
@@ -8,11 +9,16 @@ final class Checks {
         this.name = name;
     }
 
+    /** The document's words that the checks from here on are about. */
+    void at(String words) {
+        sentence = " at '" + words + "'";
+    }
+
     void due(String what, int got, int want) {
         done++;
         if (got != want) {
             wrong++;
-            System.out.println(name + ": " + what + " answered " + got + ", due is " + want);
+            System.out.println(name + sentence + ": " + what + " answered " + got + ", due is " + want);
         }
     }
 
@@ -20,7 +26,7 @@ final class Checks {
         done++;
         if (!so) {
             wrong++;
-            System.out.println(name + ": " + what + " does not hold");
+            System.out.println(name + sentence + ": " + what + " does not hold");
         }
     }
 

@@ -59,7 +59,7 @@ public final class ElectionTest {
         CHECKS.due("timeout behind the last node", x.timeout(3), QuorumLog.BAD);
         CHECKS.due("timeout of a leader", x.timeout(0), QuorumLog.ROLE);
         CHECKS.due("its term", x.term(0), 1);
-        fill(x, 8);
+        Runs.fill(x, 8);
         CHECKS.due("timeout of a leader, no room", x.timeout(0), QuorumLog.ROLE);
         CHECKS.due("timeout of a follower, no room", x.timeout(1), QuorumLog.FULL);
         x.crash(1);
@@ -67,17 +67,10 @@ public final class ElectionTest {
         CHECKS.due("timeout of no node, no room", x.timeout(3), QuorumLog.BAD);
     }
 
-    /** With a leader 0, messages to node 1 until so many wait. */
-    private static void fill(QuorumLog x, int many) {
-        for (int i = x.pending(); i < many; i++) {
-            x.heartbeat(0, 1);
-        }
-    }
-
     private static void timeoutNeedsRoomForAllItsAsks() {
         for (int nodes = 3; nodes <= 5; nodes++) {
             QuorumLog x = Runs.led(nodes, 4, 8, 0);
-            fill(x, 8 - nodes + 2);
+            Runs.fill(x, 8 - nodes + 2);
             CHECKS.due("timeout with a slot too few", x.timeout(1), QuorumLog.FULL);
             CHECKS.due("role stays", x.role(1), 4);
             CHECKS.due("term stays", x.term(1), 1);

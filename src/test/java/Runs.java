@@ -2,6 +2,12 @@
 final class Runs {
     static final int[] ODD_NUMBERS = {-1, Integer.MIN_VALUE, Integer.MAX_VALUE};
 
+    /** Numbers that are no nodes, where there are three. */
+    static final int[] NO_NODES = {-1, 3, 4, Integer.MIN_VALUE, Integer.MAX_VALUE};
+
+    /** Numbers that are no slots, where there are eight. */
+    static final int[] NO_SLOTS = {-1, 8, 9, 40, Integer.MIN_VALUE, Integer.MAX_VALUE};
+
     private Runs() {
     }
 
@@ -43,6 +49,13 @@ final class Runs {
         settle(x);
     }
 
+    /** With a leader 0: messages to node 1 until so many wait. */
+    static void fill(QuorumLog x, int many) {
+        for (int i = x.pending(); i < many; i++) {
+            x.heartbeat(0, 1);
+        }
+    }
+
     /** One heartbeat there, and its answer back. */
     static void beat(QuorumLog x, int leader, int peer) {
         x.heartbeat(leader, peer);
@@ -63,6 +76,12 @@ final class Runs {
                 x.deliver(slot);
             }
         }
+    }
+
+    /** A node that goes down and comes back at once: a follower, with its commit at its base. */
+    static void bounce(QuorumLog x, int node) {
+        x.crash(node);
+        x.restart(node);
     }
 
     static QuorumLog led(int nodes, int cap, int slots, int leader) {
