@@ -9,6 +9,7 @@ public final class AppendEdgesTest {
         anAppendToACandidateOfItsTerm();
         aRefusedAppendToACandidateOfItsTerm();
         anAppendJustBelowTheBase();
+        anAppendBelowABaseWithAnEntryBehind();
         anAppendFarBelowTheBase();
         anAppendAtTheBase();
         anAppendOneBehindTheLast();
@@ -51,9 +52,9 @@ public final class AppendEdgesTest {
     /** Leader 0 of term 2 gets the answer to an APPEND that it sent in term 1. */
     private static void aNoOfALesserTermReachesALeader() {
         CHECKS.at("Terms: if the message's term is less than the node's, it answers with 4 APPENDED, no, and 0");
-        QuorumLog x = withABase(0);
+        QuorumLog x = withABase(0, 0);
         CHECKS.due("before", x.peer(0, 1), Runs.nextAndMatch(3, 0));
-        QuorumLog y = withABase(1);
+        QuorumLog y = withABase(0, 1);
         CHECKS.due("it was a no", y.peer(0, 1), Runs.nextAndMatch(2, 0));
     }
 
@@ -109,13 +110,14 @@ public final class AppendEdgesTest {
     }
 
     /**
-     * Leader 0 of term 2 has the entries 1 and 2 and no base; node 1 has both, and a base of 2. NEXT
-     * of node 1 is 3, less 1 for each APPEND of term 1 that node 1 refuses.
+     * Leader 0 of term 2 has the entries 1 and 2, perhaps 3, and no base; node 1 has them, too, but a
+     * base of 2. NEXT of node 1 is behind them all, less 1 for each APPEND of term 1 that it refuses.
      */
-    private static QuorumLog withABase(int refusals) {
+    private static QuorumLog withABase(int behind, int refusals) {
         QuorumLog x = Runs.led(3, 4, 8, 0);
-        x.propose(0, 1);
-        x.propose(0, 2);
+        for (int i = 1; i <= 2 + behind; i++) {
+            x.propose(0, i);
+        }
         for (int i = 0; i < 3; i++) {
             Runs.beat(x, 0, 1);
         }
@@ -137,7 +139,7 @@ public final class AppendEdgesTest {
 
     private static void anAppendJustBelowTheBase() {
         CHECKS.at("Terms: if p is less than its base: yes, and its base");
-        QuorumLog x = withABase(1);
+        QuorumLog x = withABase(0, 1);
         CHECKS.due("the base is 2", x.base(1), 2);
         CHECKS.due("NEXT is 2, and p 1", x.peer(0, 1), Runs.nextAndMatch(2, 0));
         CHECKS.due("an APPEND", x.heartbeat(0, 1), 3);
@@ -149,9 +151,22 @@ public final class AppendEdgesTest {
         CHECKS.due("yes, and 2", x.peer(0, 1), Runs.nextAndMatch(3, 2));
     }
 
+    private static void anAppendBelowABaseWithAnEntryBehind() {
+        CHECKS.at("Terms: if p is less than its base: yes, and its base");
+        QuorumLog x = withABase(1, 2);
+        CHECKS.due("the base is 2", x.base(1), 2);
+        CHECKS.due("the last is 3", x.last(1), 3);
+        CHECKS.due("NEXT is 2, and p 1", x.peer(0, 1), Runs.nextAndMatch(2, 0));
+        x.heartbeat(0, 1);
+        x.deliver(0);
+        CHECKS.due("entry 3 stays", x.commandAt(1, 3), 3);
+        x.deliver(0);
+        CHECKS.due("yes, and 2, not 3", x.peer(0, 1), Runs.nextAndMatch(3, 2));
+    }
+
     private static void anAppendFarBelowTheBase() {
         CHECKS.at("Terms: if p is less than its base: yes, and its base");
-        QuorumLog x = withABase(2);
+        QuorumLog x = withABase(0, 2);
         CHECKS.due("NEXT is 1, and p 0", x.peer(0, 1), Runs.nextAndMatch(1, 0));
         CHECKS.due("an APPEND", x.heartbeat(0, 1), 3);
         x.deliver(0);
@@ -162,7 +177,7 @@ public final class AppendEdgesTest {
 
     private static void anAppendAtTheBase() {
         CHECKS.at("Terms: if p is less than its base");
-        QuorumLog x = withABase(0);
+        QuorumLog x = withABase(0, 0);
         x.propose(0, 3);
         CHECKS.due("NEXT is 3, and p 2", x.peer(0, 1), Runs.nextAndMatch(3, 0));
         x.heartbeat(0, 1);

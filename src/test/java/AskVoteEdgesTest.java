@@ -19,6 +19,7 @@ public final class AskVoteEdgesTest {
         anAskWithTheSameTermAndALesserNumber();
         anAskWithALesserTermAndAGreaterNumber();
         anAskFromAndToABase();
+        anAskBehindAMessageOfAnotherNumber();
         aVoteThatIsNotGranted();
         aVoteOfALesserTerm();
         aVoteToAFollower();
@@ -298,6 +299,26 @@ public final class AskVoteEdgesTest {
         x.deliver(4);
         CHECKS.due("0 to a base of 3: not granted", x.vote(0), QuorumLog.BAD);
         CHECKS.due("the term is taken", x.term(0), 5);
+    }
+
+    /** The APPEND bears 3, and a no 0; the ASKs that follow each bear the 2 that their sender has. */
+    private static void anAskBehindAMessageOfAnotherNumber() {
+        CHECKS.at("Terms: with the sender's last number and the term at it");
+        QuorumLog x = alikeUpTo(3, 2);
+        Runs.elect(x, 0);
+        x.heartbeat(0, 1);
+        x.timeout(1);
+        CHECKS.due("an ASK of 2", x.slot(1), Runs.message(1, 1, 0, 3));
+        x.deliver(1);
+        CHECKS.due("2 to 3: not granted", x.vote(0), QuorumLog.BAD);
+        QuorumLog y = alikeUpTo(2, 2);
+        Runs.elect(y, 0);
+        y.heartbeat(0, 2);
+        y.deliver(0);
+        CHECKS.due("the no of node 2", y.slot(0), Runs.message(4, 2, 0, 2));
+        y.timeout(1);
+        y.deliver(1);
+        CHECKS.due("2 to 2: granted", y.vote(0), 1);
     }
 
     private static void aVoteThatIsNotGranted() {

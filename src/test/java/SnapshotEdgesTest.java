@@ -9,6 +9,7 @@ public final class SnapshotEdgesTest {
         aSnapshotUpToTheCommitToACandidate();
         aSnapshotBelowTheCommit();
         aSnapshotAtTheCommit();
+        aSnapshotAtACommitBeforeTheLast();
         aSnapshotOneAboveTheCommit();
         anEntryOfThatTermBeforeOthers();
         anEntryOfThatTermAtTheLast();
@@ -172,6 +173,22 @@ public final class SnapshotEdgesTest {
         CHECKS.due("the base stays", y.base(2), 3);
         y.deliver(0);
         CHECKS.due("yes, and 3", y.peer(0, 2), Runs.nextAndMatch(4, 3));
+    }
+
+    private static void aSnapshotAtACommitBeforeTheLast() {
+        CHECKS.at("Terms: if b is not greater than its commit: yes, and its commit");
+        QuorumLog x = lateSnapshot();
+        x.propose(0, 20);
+        x.heartbeat(0, 2);
+        x.deliver(0);
+        x.drop(0);
+        CHECKS.due("the last is 2", x.last(2), 2);
+        CHECKS.due("the commit is 1", x.commit(2), 1);
+        CHECKS.due("b is 1", x.deliver(1), 5);
+        CHECKS.due("the last stays", x.last(2), 2);
+        x.deliver(0);
+        CHECKS.due("yes, and 1, not 2", x.peer(0, 2), Runs.nextAndMatch(2, 1));
+        CHECKS.due("the leader's commit", x.commit(0), 1);
     }
 
     private static void aSnapshotOneAboveTheCommit() {
