@@ -2,13 +2,16 @@ import java.util.Arrays;
 import java.util.Random;
 
 /**
- * Runs of 512 calls, drawn with fixed seeds, whose answers must be those of the model. The moods
+ * Runs of calls, drawn with fixed seeds, whose answers must be those of the model. The moods
  * differ in what they draw most, so that elections, long logs, conflicts and snapshots all occur.
  */
 public final class RandomRunsTest {
     private static final Checks CHECKS = new Checks("RandomRunsTest");
-    private static final int RUNS = 12000;
+    private static final int RUNS = 15000;
+
+    /** An object is used for 512 calls: those that are drawn, and then a look at all that can be read. */
     private static final int CALLS = 512;
+    private static final int DRAWN = 400;
 
     /** For each mood, how often a call is drawn; the order is that of the cases in both(). */
     private static final int[][] MOODS = {
@@ -26,6 +29,7 @@ public final class RandomRunsTest {
     private final Model model;
     private final int[] mood;
     private int favourite = 0;
+    private int calls = 0;
 
     private RandomRunsTest(int seed) {
         random = new Random(seed);
@@ -44,20 +48,43 @@ public final class RandomRunsTest {
         }
         System.out.println("delivered, by kind: " + Arrays.toString(seen));
         for (int kind = 1; kind <= 5; kind++) {
-            CHECKS.holds("kind " + kind + " was delivered often", seen[kind] > RUNS);
+            CHECKS.holds("kind " + kind + " was delivered often", seen[kind] > RUNS / 2);
         }
         CHECKS.end();
     }
 
     private void run(int seed, int[] seen) {
-        for (int i = 0; i < CALLS && CHECKS.isClean(); i++) {
+        while (calls < DRAWN && CHECKS.isClean()) {
             int call = draw();
-            int a = argument(call);
-            int b = secondArgument(call);
-            String what = "seed " + seed + ", call " + i + " of kind " + call + " (" + a + ", " + b + ")";
-            int got = both(what, call, a, b);
+            int got = make(seed, call, argument(call), secondArgument(call));
             if (call == 4 && got > 0) {
                 seen[got]++;
+            }
+        }
+        lookAtAll(seed);
+    }
+
+    private int make(int seed, int call, int a, int b) {
+        String what = "seed " + seed + ", call " + calls + " of kind " + call + " (" + a + ", " + b + ")";
+        calls++;
+        return both(what, call, a, b);
+    }
+
+    /** A difference that no call has shown yet is seen here, as far as the calls suffice. */
+    private void lookAtAll(int seed) {
+        for (int node = 0; node < nodes; node++) {
+            for (int reading = 9; reading <= 14; reading++) {
+                make(seed, reading, node, 0);
+            }
+            make(seed, 17, node, 0);
+        }
+        for (int back = 0; back <= 12; back++) {
+            for (int node = 0; node < nodes && calls < CALLS - 1; node++) {
+                int i = model.last(node) - back;
+                if (i >= model.base(node)) {
+                    make(seed, 15, node, i);
+                    make(seed, 16, node, i);
+                }
             }
         }
     }

@@ -14,6 +14,7 @@ public final class SnapshotEdgesTest {
         anEntryOfThatTermBeforeOthers();
         anEntryOfThatTermAtTheLast();
         anEntryOfThatTermBehindOthers();
+        anEntryOfThatTermBelowTheLeadersCommit();
         anEntryOfAnotherTermBeforeOthers();
         anEntryOfAnotherTermAtTheLast();
         noEntryInAnEmptyLog();
@@ -278,6 +279,25 @@ public final class SnapshotEdgesTest {
         CHECKS.due("its term", x.termAt(2, 5), 2);
         CHECKS.due("the last stays", x.last(2), 5);
         CHECKS.due("the state", x.state(2), ((10 * 31 + 20) * 31 + 30) * 31 + 40);
+    }
+
+    /** The same when the leader has committed more than node 2 has: that does not matter here. */
+    private static void anEntryOfThatTermBelowTheLeadersCommit() {
+        CHECKS.at("Terms: if it has an entry b with that term, the entries up to b go");
+        QuorumLog x = fiveAndABaseOfFour();
+        x.propose(0, 60);
+        for (int i = 0; i < 10 && x.commit(0) < 6; i++) {
+            Runs.beat(x, 0, 1);
+        }
+        Runs.beat(x, 0, 1);
+        CHECKS.due("the leader's commit", x.commit(0), 6);
+        CHECKS.due("the last of node 2", x.last(2), 5);
+        CHECKS.due("a SNAPSHOT of 4", x.heartbeat(0, 2), 5);
+        x.deliver(0);
+        CHECKS.due("the base", x.base(2), 4);
+        CHECKS.due("the commit", x.commit(2), 4);
+        CHECKS.due("entry 5 stays", x.commandAt(2, 5), 50);
+        CHECKS.due("the last stays", x.last(2), 5);
     }
 
     /** Node 0 has so many entries of term 1; node 1 leads term 2 with a base of 1. */
